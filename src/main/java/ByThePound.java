@@ -1149,6 +1149,9 @@ public final class ByThePound {
 
         /** All that a year needs to know of an offer; it stands till the offer is weighed again. */
         void weigh(int offer) {
+            if (!isRow(offer)) {
+                return;
+            }
             measure(offer);
             for (int buyer = 0; buyer < stock.buyers.count; buyer++) {
                 over[buyer][offer] = overPrice(buyer, offer);
@@ -1156,6 +1159,9 @@ public final class ByThePound {
         }
 
         void measure(int offer) {
+            if (!isRow(offer)) {
+                return;
+            }
             int tied = stock.itemsOf(offer);
             int by = stock.offers.at(offer, Stock.MAKER);
             int percent = stock.percentOf(stock.offers.at(offer, Stock.HOUSE));
@@ -1180,6 +1186,10 @@ public final class ByThePound {
                     lawful[offer] = false;
                 }
             }
+        }
+
+        private boolean isRow(int offer) {
+            return offer >= 0 && offer < hours.length;
         }
 
         int worthTo(int buyer, int offer) {
