@@ -68,9 +68,8 @@ public final class ByThePound {
         if (!stock.offers.has(offer) || !stock.makes(stock.offers.at(offer, Stock.MAKER), thing)) {
             return NONE;
         }
-        int least = stock.things.at(thing, Stock.LEAST);
-        int most = stock.things.at(thing, Stock.MOST);
-        if (stock.itemsOf(offer) >= Stock.MOST_ITEMS || !within(weight, least, most)) {
+        boolean isFull = stock.itemsOf(offer) >= Stock.MOST_ITEMS;
+        if (isFull || !within(weight, stock.lightest(thing), stock.heaviest(thing))) {
             return NONE;
         }
         scales.use(theLaw());
@@ -539,6 +538,14 @@ public final class ByThePound {
             return makers.has(maker) && things.has(thing) && (makers.at(maker, CRAFTS) >> thing & 1) == 1;
         }
 
+        int lightest(int thing) {
+            return things.at(thing, LEAST);
+        }
+
+        int heaviest(int thing) {
+            return things.at(thing, MOST);
+        }
+
         int itemsOf(int offer) {
             return Math.max(0, Math.min(MOST_ITEMS, offers.at(offer, ITEMS)));
         }
@@ -750,7 +757,7 @@ public final class ByThePound {
         }
     }
 
-    /** A text that was read: its clauses, each a run of codes behind its operands' (numbers as they are, else less a token's kind). */
+    /** A text that was read: its clauses as codes, each behind its operands; a number is itself, else a token's kind with a minus. */
     private static final class Law {
         static final int CLAUSES = 10;
 
@@ -1293,7 +1300,7 @@ public final class ByThePound {
 
         private void layOne(int row, int maker, int house, int thing) {
             stock.lay(row, maker, house);
-            stock.tie(row, thing, stock.things.at(thing, Stock.LEAST), 0);
+            stock.tie(row, thing, stock.lightest(thing), 0);
         }
 
         /** The best weight of a thing in a new offer behind all; what he earns by it stands in most. */
@@ -1301,7 +1308,7 @@ public final class ByThePound {
             int row = stock.offers.count;
             int best = NONE;
             layOne(row, maker, house, thing);
-            for (int weight = stock.things.at(thing, Stock.LEAST); weight <= stock.things.at(thing, Stock.MOST); weight++) {
+            for (int weight = stock.lightest(thing); weight <= stock.heaviest(thing); weight++) {
                 stock.reweigh(row, 0, weight);
                 int earned = earnedWith(row, row + 1, maker);
                 if (best == NONE || earned > most) {
@@ -1328,10 +1335,10 @@ public final class ByThePound {
             int row = stock.offers.count;
             boolean tried = false;
             layOne(row, maker, house, one);
-            stock.tie(row, other, stock.things.at(other, Stock.LEAST), 0);
-            for (int weight = stock.things.at(one, Stock.LEAST); weight <= stock.things.at(one, Stock.MOST); weight++) {
+            stock.tie(row, other, stock.lightest(other), 0);
+            for (int weight = stock.lightest(one); weight <= stock.heaviest(one); weight++) {
                 stock.reweigh(row, 0, weight);
-                for (int second = stock.things.at(other, Stock.LEAST); second <= stock.things.at(other, Stock.MOST); second++) {
+                for (int second = stock.lightest(other); second <= stock.heaviest(other); second++) {
                     stock.reweigh(row, 1, second);
                     int earned = earnedWith(row, row + 1, maker);
                     if (!tried || earned > most) {
@@ -1363,7 +1370,7 @@ public final class ByThePound {
             int was = stock.part(offer, item, Stock.WEIGHT);
             int best = was;
             most = earnedWith(offer, offers, maker);
-            for (int weight = stock.things.at(thing, Stock.LEAST); weight <= stock.things.at(thing, Stock.MOST); weight++) {
+            for (int weight = stock.lightest(thing); weight <= stock.heaviest(thing); weight++) {
                 stock.reweigh(offer, item, weight);
                 int earned = earnedWith(offer, offers, maker);
                 if (earned > most) {
@@ -1400,7 +1407,7 @@ public final class ByThePound {
             int row = stock.offers.count;
             int reason = 2;
             layOne(row, maker, house, thing);
-            for (int weight = stock.things.at(thing, Stock.LEAST); weight <= stock.things.at(thing, Stock.MOST); weight++) {
+            for (int weight = stock.lightest(thing); weight <= stock.heaviest(thing); weight++) {
                 stock.reweigh(row, 0, weight);
                 market.weigh(row);
                 if (market.isLiked(row)) {
@@ -1419,7 +1426,7 @@ public final class ByThePound {
             for (int thing = 0; thing < stock.things.count; thing++) {
                 int wage = lowestWage(thing);
                 if (wage != NONE) {
-                    for (int weight = stock.things.at(thing, Stock.LEAST); weight <= stock.things.at(thing, Stock.MOST); weight++) {
+                    for (int weight = stock.lightest(thing); weight <= stock.heaviest(thing); weight++) {
                         raiseGreatest(thing, weight, wage);
                     }
                 }

@@ -1207,7 +1207,7 @@ public final class ModelTests {
     private boolean giftCalls() {
         int from = some(0, 7);
         int to = some(0, 7);
-        int worth = some(1, r.nextInt(3) == 0 ? 999 : 9);
+        int worth = some(1, run % 3 == 0 ? 2 : run % 3 == 1 ? 9 : 999);
         int who = some(0, 7);
         return same("gift", x.gift(from, to, worth), m.gift(from, to, worth))
             && same("round " + who, x.round(who), m.round(who)) && same("net " + who, x.net(who), m.net(who))

@@ -200,6 +200,7 @@ public final class PromiseTests {
         x.drop(0);
         read(x, "wet 0 - 3;");
         x.by(2);
+        due("wet below 0 is 0", x.put(0, 0, 3, 1), -1);
         due("wet below 0 is 0", x.put(0, 0, 3, 0), 1);
     }
 
@@ -266,6 +267,7 @@ public final class PromiseTests {
         faultless(" \n ");
         faultless("price 1;hours 2;worth taste*want;wet 9999;bars 1=1;bars 1<2 or 1>2 and not 1<=2;bars 1>=1;");
         faultless("bars(1)#-1;");
+        faultless("wet-1" + times("+1", 147) + ";");
         faultless("price1;");
         faultless("bars not1=1or2=2and3=3;");
         faultless("bars 1=1;bars 1=1;bars 1=1;bars 1=1;bars 1=1;bars 1=1;bars 1=1;bars 1=1;bars 1=1;price 1;");
@@ -277,6 +279,15 @@ public final class PromiseTests {
         faulty(";", 1, 0);
         faulty("priced 1;", 1, 0);
         faulty("Price 1;", 1, 0);
+        faulty("priceA 1;", 1, 0);
+        faulty("priceZ 1;", 1, 0);
+        faulty("pricea 1;", 1, 0);
+        faulty("pricez 1;", 1, 0);
+        faulty("price@ 1;", 1, 5);
+        faulty("price[ 1;", 1, 5);
+        faulty("price` 1;", 1, 5);
+        faulty("price{ 1;", 1, 5);
+        faulty("price 1/1:1;", 1, 9);
         faulty("price ;", 1, 6);
         faulty("price 1", 1, 7);
         faulty("price 1 \n ", 1, 10);
@@ -315,6 +326,7 @@ public final class PromiseTests {
         faulty("hours 1+want;", 5, 8);
         faulty("wet taste;", 5, 4);
         faulty("bars want=1;", 5, 5);
+        faulty("wet-1" + times("+1", 147) + "+", 1, 300);
         faulty(times("bars 1=1;", 10) + "bars", 6, 90);
         faulty(times("bars 1=1;", 10) + "price 10000;", 6, 90);
         faulty("price 1;" + times("bars 1=1;", 9) + "price", 4, 89);
@@ -834,12 +846,23 @@ public final class PromiseTests {
         x.gift(0, 3, 5);
         // 0 at -8: of his two of 5 the first goes, then 1 at -5 gives 5 up, 0 is at -8: 5, then 3
         due("the first of like ones", x.steady(), 4);
+        due("3 has to take his away, and then the other goes", loop(true).steady(), 3);
+        due("the first is the one that 2 can't give", loop(false).steady(), 1);
         ByThePound y = new ByThePound();
         y.gift(3, 4, 2);
         y.gift(4, 3, 1);
         y.gift(5, 6, 1);
         y.gift(6, 5, 1);
         due("one goes, then the other's", y.steady(), 2);
+    }
+
+    /** 2 gives as much to 3 and 4, and 3 gives it back; 2 gives to 3 first, or to 4. */
+    private static ByThePound loop(boolean threeFirst) {
+        ByThePound x = new ByThePound();
+        x.gift(2, threeFirst ? 3 : 4, 5);
+        x.gift(3, 2, 5);
+        x.gift(2, threeFirst ? 4 : 3, 5);
+        return x;
     }
 
     private static void buyers() {
