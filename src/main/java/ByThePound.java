@@ -216,7 +216,15 @@ public final class ByThePound {
     public int rounds() {
         market.weighAll(theLaw());
         for (int n = 1; n <= MOST_ROUNDS; n++) {
-            if (!trials.turnAll()) {
+            boolean changes = false;
+            for (int offer = 0; offer < stock.offers.count; offer++) {
+                for (int item = 0; item < stock.itemsOf(offer); item++) {
+                    if (trials.turnItem(offer, item)) {
+                        changes = true;
+                    }
+                }
+            }
+            if (!changes) {
                 return n;
             }
         }
@@ -236,7 +244,9 @@ public final class ByThePound {
             return NO_SUM;
         }
         market.weighAll(theLaw());
-        int apart = trials.earnedApart(maker, one, other, house);
+        int weight = trials.bestWeight(maker, one, house);
+        int otherWeight = trials.bestWeight(maker, other, house);
+        int apart = trials.earnedApart(maker, house, one, weight, other, otherWeight);
         return trials.earnedTied(maker, one, other, house) - apart;
     }
 
@@ -405,20 +415,15 @@ public final class ByThePound {
         }
 
         int at(int row, int column) {
-            int cell = cellOf(row, column);
-            return cell >= 0 ? cells[cell] : 0;
+            boolean inside = row >= 0 && row < rows && column >= 0 && column < columns;
+            return inside ? cells[row * columns + column] : 0;
         }
 
         void set(int row, int column, int value) {
-            int cell = cellOf(row, column);
-            if (cell >= 0) {
-                cells[cell] = value;
-            }
-        }
-
-        private int cellOf(int row, int column) {
             boolean inside = row >= 0 && row < rows && column >= 0 && column < columns;
-            return inside ? row * columns + column : NONE;
+            if (inside) {
+                cells[row * columns + column] = value;
+            }
         }
 
         void become(Table from) {
@@ -882,32 +887,28 @@ public final class ByThePound {
             return true;
         }
 
+        /** Each turn reads a BOTH; there are fewer of them than bytes. */
         private boolean readEither() {
-            if (!readBoth()) {
-                return false;
-            }
-            for (int i = 0; i < Tape.ROOM && kind() == Tape.OR; i++) {
-                token++;
-                if (!readBoth()) {
-                    return false;
-                }
-                law.write(-Tape.OR);
-            }
-            return true;
-        }
-
-        private boolean readBoth() {
-            if (!readAsk(0)) {
-                return false;
-            }
-            for (int i = 0; i < Tape.ROOM && kind() == Tape.AND; i++) {
-                token++;
+            for (int i = 0; i < Tape.ROOM; i++) {
                 if (!readAsk(0)) {
                     return false;
                 }
-                law.write(-Tape.AND);
+                for (int j = 0; j < Tape.ROOM && kind() == Tape.AND; j++) {
+                    token++;
+                    if (!readAsk(0)) {
+                        return false;
+                    }
+                    law.write(-Tape.AND);
+                }
+                if (i > 0) {
+                    law.write(-Tape.OR);
+                }
+                if (kind() != Tape.OR) {
+                    return true;
+                }
+                token++;
             }
-            return true;
+            return fail(1);
         }
 
         private boolean readAsk(int depth) {
@@ -996,25 +997,20 @@ public final class ByThePound {
                 return fail(3);
             }
             token++;
-            return kind == Tape.OPEN ? readInner(depth + 1) : readNegated(depth + 1);
-        }
-
-        private boolean readInner(int depth) {
-            if (!readSum(depth)) {
+            if (kind == Tape.MINUS) {
+                if (!readOne(depth + 1)) {
+                    return false;
+                }
+                law.write(-Tape.NEGATE);
+                return true;
+            }
+            if (!readSum(depth + 1)) {
                 return false;
             }
             if (kind() != Tape.SHUT) {
                 return fail(1);
             }
             token++;
-            return true;
-        }
-
-        private boolean readNegated(int depth) {
-            if (!readOne(depth)) {
-                return false;
-            }
-            law.write(-Tape.NEGATE);
             return true;
         }
     }
@@ -1093,7 +1089,7 @@ public final class ByThePound {
                     }
                 } else if (top > 1) {
                     top--;
-                    pile[top - 1] = join(-code, pile[top - 1], pile[top]);
+                    pile[top - 1] = cut(join(-code, pile[top - 1], pile[top]));
                 }
             }
             return top > 0 ? pile[0] : 0;
@@ -1104,11 +1100,11 @@ public final class ByThePound {
             return name >= 0 && name < names.length ? names[name] : code;
         }
 
-        private static int join(int kind, int a, int b) {
+        private static long join(int kind, int a, int b) {
             switch (kind) {
-                case Tape.PLUS: return cut(a + b);
-                case Tape.MINUS: return cut(a - b);
-                case Tape.TIMES: return cut((long) a * b);
+                case Tape.PLUS: return (long) a + b;
+                case Tape.MINUS: return (long) a - b;
+                case Tape.TIMES: return (long) a * b;
                 case Tape.OVER: return b == 0 ? 0 : a / b;
                 case Tape.LESS: return a < b ? 1 : 0;
                 case Tape.MORE: return a > b ? 1 : 0;
@@ -1123,7 +1119,7 @@ public final class ByThePound {
         }
 
         private static int cut(long value) {
-            return (int) Math.max(-FAR, Math.min(FAR, value));
+            return value > FAR ? FAR : value < -FAR ? -FAR : (int) value;
         }
     }
 
@@ -1137,6 +1133,7 @@ public final class ByThePound {
         final int[] load = new int[Stock.OFFERS + Stock.TRIED];
         final boolean[] lawful = new boolean[Stock.OFFERS + Stock.TRIED];
         private final int[] maker = new int[Stock.OFFERS + Stock.TRIED];
+        /** How far WORTH is over PRICE, or UNLIKED. */
         private final int[][] over = new int[Stock.BUYERS][Stock.OFFERS + Stock.TRIED];
 
         private final Stock stock;
@@ -1160,8 +1157,10 @@ public final class ByThePound {
                 return;
             }
             measure(offer);
+            boolean isOffered = stock.itemsOf(offer) > 0 && lawful[offer];
             for (int buyer = 0; buyer < stock.buyers.count; buyer++) {
-                over[buyer][offer] = overPrice(buyer, offer);
+                boolean canTake = isOffered && load[offer] <= stock.buyers.at(buyer, Stock.CARRY);
+                over[buyer][offer] = canTake ? Math.max(UNLIKED, worthTo(buyer, offer) - price[offer]) : UNLIKED;
             }
         }
 
@@ -1207,12 +1206,6 @@ public final class ByThePound {
                 worth += scales.worthTo(buyer, thing, stock.part(offer, item, Stock.WEIGHT), tied);
             }
             return worth;
-        }
-
-        /** How far WORTH is over PRICE, or UNLIKED. */
-        private int overPrice(int buyer, int offer) {
-            boolean canTake = stock.itemsOf(offer) > 0 && lawful[offer] && load[offer] <= stock.buyers.at(buyer, Stock.CARRY);
-            return canTake ? Math.max(UNLIKED, worthTo(buyer, offer) - price[offer]) : UNLIKED;
         }
 
         boolean isLiked(int offer) {
@@ -1319,10 +1312,8 @@ public final class ByThePound {
             return best;
         }
 
-        int earnedApart(int maker, int one, int other, int house) {
+        int earnedApart(int maker, int house, int one, int weight, int other, int otherWeight) {
             int row = stock.offers.count;
-            int weight = bestWeight(maker, one, house);
-            int otherWeight = bestWeight(maker, other, house);
             layOne(row, maker, house, one);
             stock.reweigh(row, 0, weight);
             market.weigh(row);
@@ -1350,20 +1341,8 @@ public final class ByThePound {
             return most;
         }
 
-        /** One round by turns: whether a weight changed. */
-        boolean turnAll() {
-            boolean changes = false;
-            for (int offer = 0; offer < stock.offers.count; offer++) {
-                for (int item = 0; item < stock.itemsOf(offer); item++) {
-                    if (turnItem(offer, item)) {
-                        changes = true;
-                    }
-                }
-            }
-            return changes;
-        }
-
-        private boolean turnItem(int offer, int item) {
+        /** One item's turn: whether its weight changed. */
+        boolean turnItem(int offer, int item) {
             int offers = stock.offers.count;
             int maker = stock.offers.at(offer, Stock.MAKER);
             int thing = stock.part(offer, item, Stock.THING);

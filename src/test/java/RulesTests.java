@@ -1,3 +1,10 @@
+import com.sun.source.tree.CompilationUnitTree;
+import com.sun.source.tree.MethodInvocationTree;
+import com.sun.source.tree.MethodTree;
+import com.sun.source.tree.NewClassTree;
+import com.sun.source.util.JavacTask;
+import com.sun.source.util.TreePathScanner;
+import com.sun.source.util.Trees;
 import java.io.IOException;
 import java.lang.reflect.Field;
 import java.lang.reflect.Member;
@@ -8,10 +15,16 @@ import java.nio.file.Path;
 import java.util.ArrayList;
 import java.util.Arrays;
 import java.util.List;
+import java.util.Map;
 import java.util.Set;
+import java.util.TreeMap;
 import java.util.TreeSet;
 import java.util.regex.Matcher;
 import java.util.regex.Pattern;
+import javax.lang.model.element.Element;
+import javax.tools.JavaCompiler;
+import javax.tools.StandardJavaFileManager;
+import javax.tools.ToolProvider;
 
 /** Those rules of LANGUAGE.md that can be looked up in the compiled class and in its source. Run from the project's root. */
 public final class RulesTests {
@@ -135,10 +148,110 @@ public final class RulesTests {
         }
     }
 
+    /** Which methods each method calls, as the compiler resolves them. */
+    private static Map<String, Set<String>> callsOf(String file) throws IOException {
+        JavaCompiler compiler = ToolProvider.getSystemJavaCompiler();
+        StandardJavaFileManager files = compiler.getStandardFileManager(null, null, null);
+        JavacTask task = (JavacTask) compiler.getTask(null, files, null, List.of("-proc:none"), null, files.getJavaFileObjects(file));
+        Map<String, Set<String>> calls = new TreeMap<>();
+        Iterable<? extends CompilationUnitTree> units = task.parse();
+        task.analyze();
+        Trees trees = Trees.instance(task);
+        for (CompilationUnitTree unit : units) {
+            new CallScanner(trees, calls).scan(unit, null);
+        }
+        return calls;
+    }
+
+    private static final class CallScanner extends TreePathScanner<Void, String> {
+        private final Trees trees;
+        private final Map<String, Set<String>> calls;
+
+        CallScanner(Trees trees, Map<String, Set<String>> calls) {
+            this.trees = trees;
+            this.calls = calls;
+        }
+
+        @Override
+        public Void visitMethod(MethodTree method, String in) {
+            String name = nameHere();
+            calls.computeIfAbsent(name, k -> new TreeSet<>());
+            return super.visitMethod(method, name);
+        }
+
+        @Override
+        public Void visitMethodInvocation(MethodInvocationTree call, String in) {
+            note(in);
+            return super.visitMethodInvocation(call, in);
+        }
+
+        @Override
+        public Void visitNewClass(NewClassTree call, String in) {
+            note(in);
+            return super.visitNewClass(call, in);
+        }
+
+        private void note(String in) {
+            if (in != null) {
+                calls.get(in).add(nameHere());
+            }
+        }
+
+        private String nameHere() {
+            Element e = trees.getElement(getCurrentPath());
+            return e.getEnclosingElement() + "." + e;
+        }
+    }
+
+    /** All that the method may come to call; itself, if it is a recursion. */
+    private static Set<String> reach(Map<String, Set<String>> calls, String method) {
+        Set<String> all = new TreeSet<>();
+        List<String> next = new ArrayList<>(calls.getOrDefault(method, Set.of()));
+        while (!next.isEmpty()) {
+            String called = next.remove(next.size() - 1);
+            if (all.add(called)) {
+                next.addAll(calls.getOrDefault(called, Set.of()));
+            }
+        }
+        return all;
+    }
+
+    /** The longest chain of calls from a method on; those of one recursion count once. */
+    private static int depth(Map<String, Set<String>> calls, Map<String, Set<String>> reaches, Map<String, Integer> known, String method) {
+        Integer before = known.get(method);
+        if (before != null) {
+            return before;
+        }
+        int deepest = 0;
+        for (String called : reaches.getOrDefault(method, Set.of())) {
+            boolean isBelow = !reaches.getOrDefault(called, Set.of()).contains(method) && !called.equals(method);
+            if (isBelow) {
+                deepest = Math.max(deepest, depth(calls, reaches, known, called));
+            }
+        }
+        known.put(method, deepest + 1);
+        return deepest + 1;
+    }
+
+    private static void callsAreShallow() throws IOException {
+        Map<String, Set<String>> calls = callsOf("src/main/java/ByThePound.java");
+        Map<String, Set<String>> reaches = new TreeMap<>();
+        for (String method : calls.keySet()) {
+            reaches.put(method, reach(calls, method));
+        }
+        hold("the calls are seen", calls.size() > 100);
+        Map<String, Integer> known = new TreeMap<>();
+        for (String method : calls.keySet()) {
+            int depth = depth(calls, reaches, known, method);
+            hold("rule 11: calls at most eight deep: " + depth + " from " + method, depth <= 8);
+        }
+    }
+
     public static void main(String[] args) throws IOException {
         face();
         classesInside();
         source();
+        callsAreShallow();
         System.out.println(wrong == 0 ? "the rules that can be looked up hold" : wrong + " rules are broken");
         if (wrong != 0) {
             System.exit(1);
