@@ -410,6 +410,33 @@ final class CallSentences {
         due("the next is the fourth", Says.read(x, "price 9;"), 3);
     }
 
+    /** What was read of a faulty text leaves nothing behind, however long it was. */
+    private static void aFaultyTextLeavesNothing() {
+        ByThePound x = Says.sixPounds();
+        String most = "1" + "+1".repeat(145);
+        for (int i = 0; i < 3; i++) {
+            due("a fault", Says.read(x, "worth " + most + ";$"), -1);
+        }
+        due("without one", Says.read(x, "worth " + most + ";"), 0);
+        x.by(0);
+        due("all of it counts", x.worth(0, 0), 146);
+        x.back();
+        ByThePound y = Says.sixPounds();
+        due("bars, but faulty", Says.read(y, "bars 1=1; wet 5; wet 5;"), -1);
+        due("without one", Says.read(y, "price 6;"), 0);
+        y.by(0);
+        due("it isn't barred", y.of(0, 4), 1);
+        due("it isn't wet", y.put(0, 0, 6, 1), -1);
+        y.image();
+        due("another", Says.read(y, "price 5; bars 1=1;"), 1);
+        y.back();
+        due("in its place", Says.read(y, "worth 33;"), 1);
+        y.by(1);
+        due("it isn't barred", y.of(0, 4), 1);
+        due("price", y.of(0, 1), 9);
+        due("worth", y.worth(0, 0), 33);
+    }
+
     private static void thereAre6() {
         ByThePound x = Says.shop();
         x.end(0);
@@ -638,6 +665,7 @@ final class CallSentences {
         Says.says("10", "or n is below 0.", CallSentences::endBelow0);
         Says.says("11", "The tape (empty then) is a TEXT: its number.", CallSentences::theTapeIsAText);
         Says.says("11", "NONE: it has a FAULT", CallSentences::itHasAFault);
+        Says.says("11", "NONE: it has a FAULT", CallSentences::aFaultyTextLeavesNothing);
         Says.says("11", "or (the tape stays) there are 6.", CallSentences::thereAre6);
         Says.says("12", "Of the latest text that was read", CallSentences::ofTheLatestText);
         Says.says("12", "0 its FAULT (0 without)", CallSentences::itsFault);

@@ -141,6 +141,7 @@ final class GiftSentences {
         due("of 6, not of 3", given(0, 2, 6, 0, 1, 3, 1, 0, 3).steady(), 1);
         // who is lowest gives up his own dearest, not the dearest of all
         due("not the dearest of all", given(0, 1, 9, 1, 0, 9, 2, 3, 1).steady(), 1);
+        due("each goes once", given(0, 1, 6, 0, 2, 3, 4, 5, 2, 5, 4, 2).steady(), 2);
     }
 
     /** Who is below 0 gives up his own; in which order they do so can't be seen from how many go. */

@@ -72,6 +72,13 @@ final class HarmSentences {
         could(x, "worth 20+thing*5;", 25);
         could(x, "worth 20-thing*5;", 18);
         could(x, "worth 20*tied;", 20);
+        ByThePound y = new ByThePound();
+        y.thing(9, 1, 1, 0);
+        y.maker(9, 1, 1);
+        y.buyer(1, 0, 30, 99);
+        could(y, "hours 3*tied;", 27);
+        could(y, "hours 3*(tied-1);", 29);
+        could(y, "worth taste*tied-tied;", 28);
         could(x, "worth taste+want*5;", 12);
         could(x, "worth taste*(1-want);", 9);
         could(x, "worth size;", 20);

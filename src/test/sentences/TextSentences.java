@@ -193,6 +193,10 @@ final class TextSentences {
             Says.asked("6" + signs[i] + "5", due[i][2]);
             Says.asked("-6" + signs[i] + "-5", due[i][0]);
             Says.asked("1+4" + signs[i] + "2*3-1", due[i][1]);
+            Says.asked("not 4" + signs[i] + "5", !due[i][0]);
+            Says.asked("not 5" + signs[i] + "5", !due[i][1]);
+            Says.asked("1=1 and 4" + signs[i] + "5", due[i][0]);
+            Says.asked("6" + signs[i] + "5 and 1=1", due[i][2]);
         }
         Says.asked("not 1=2", true);
         Says.asked("not 1=1", false);
