@@ -151,12 +151,12 @@ public final class ByThePound {
         scales.use(theLaw());
         market.measure(offer);
         switch (what) {
-            case 0: return market.hours[offer];
-            case 1: return market.price[offer];
-            case 2: return market.cost[offer];
-            case 3: return market.load[offer];
-            case 4: return market.lawful[offer] ? 1 : 0;
-            case 5: return stock.latest.sold[offer];
+            case 0: return Table.cell(market.hours, offer);
+            case 1: return Table.cell(market.price, offer);
+            case 2: return Table.cell(market.cost, offer);
+            case 3: return Table.cell(market.load, offer);
+            case 4: return market.isLawful(offer) ? 1 : 0;
+            case 5: return Table.cell(stock.latest.sold, offer);
             case 6: return stock.itemsOf(offer);
             default: return NONE;
         }
@@ -185,10 +185,10 @@ public final class ByThePound {
 
     public int told(int what, int who) {
         switch (what) {
-            case 0: return stock.makers.has(who) ? stock.latest.earned[who] : NO_SUM;
-            case 1: return stock.makers.has(who) ? stock.latest.hours[who] : NO_SUM;
-            case 2: return stock.buyers.has(who) ? stock.latest.lacks[who] : NO_SUM;
-            case 3: return stock.buyers.has(who) ? stock.latest.gain[who] : NO_SUM;
+            case 0: return stock.makers.has(who) ? Table.cell(stock.latest.earned, who) : NO_SUM;
+            case 1: return stock.makers.has(who) ? Table.cell(stock.latest.hours, who) : NO_SUM;
+            case 2: return stock.buyers.has(who) ? Table.cell(stock.latest.lacks, who) : NO_SUM;
+            case 3: return stock.buyers.has(who) ? Table.cell(stock.latest.gain, who) : NO_SUM;
             default: return NO_SUM;
         }
     }
@@ -197,7 +197,8 @@ public final class ByThePound {
         scales.use(theLaw());
         for (int offer = 0; offer < stock.offers.count; offer++) {
             market.measure(offer);
-            if (stock.latest.sold[offer] > 0 && market.price[offer] < market.cost[offer]) {
+            boolean isBelowCost = Table.cell(market.price, offer) < Table.cell(market.cost, offer);
+            if (isBelowCost && Table.cell(stock.latest.sold, offer) > 0) {
                 return offer;
             }
         }
@@ -312,7 +313,7 @@ public final class ByThePound {
             return NO_WORTH;
         }
         circle.bringAll();
-        return circle.nets[who];
+        return Table.cell(circle.nets, who);
     }
 
     public int steady() {
@@ -429,6 +430,17 @@ public final class ByThePound {
         void become(Table from) {
             count = from.count;
             copyOver(from.cells, cells);
+        }
+
+        /** What stands at a place of a row, 0 beside it. */
+        static int cell(int[] row, int place) {
+            return place >= 0 && place < row.length ? row[place] : 0;
+        }
+
+        static void raise(int[] row, int place, int more) {
+            if (place >= 0 && place < row.length) {
+                row[place] += more;
+            }
         }
 
         static void copyOver(int[] from, int[] to) {
@@ -780,7 +792,7 @@ public final class ByThePound {
 
         /** The number of the clause of this kind, or NONE. */
         int find(int kind) {
-            for (int i = 0; i < clauses; i++) {
+            for (int i = 0; i < clauses && i < kinds.length; i++) {
                 if (kinds[i] == kind) {
                     return i;
                 }
@@ -798,7 +810,7 @@ public final class ByThePound {
         }
 
         void shut() {
-            if (clauses > 0) {
+            if (clauses > 0 && clauses <= stops.length) {
                 stops[clauses - 1] = length;
             }
         }
@@ -1050,7 +1062,7 @@ public final class ByThePound {
 
         boolean isBarred(int thing, int weighed, int tied) {
             for (int i = 0; i < law.clauses; i++) {
-                if (law.kinds[i] == Tape.BARS && itemValue(i, thing, weighed, tied) != 0) {
+                if (Table.cell(law.kinds, i) == Tape.BARS && itemValue(i, thing, weighed, tied) != 0) {
                     return true;
                 }
             }
@@ -1076,8 +1088,9 @@ public final class ByThePound {
             names[2] = stock.things.at(thing, Stock.SIZE);
             names[3] = tied;
             int top = 0;
-            for (int i = law.starts[clause]; i < law.stops[clause]; i++) {
-                int code = law.codes[i];
+            int stop = Table.cell(law.stops, clause);
+            for (int i = Table.cell(law.starts, clause); i < stop; i++) {
+                int code = Table.cell(law.codes, i);
                 if (code > -Tape.OR) {
                     if (top < pile.length) {
                         pile[top] = operand(code);
@@ -1158,7 +1171,7 @@ public final class ByThePound {
             }
             measure(offer);
             boolean isOffered = stock.itemsOf(offer) > 0 && lawful[offer];
-            for (int buyer = 0; buyer < stock.buyers.count; buyer++) {
+            for (int buyer = 0; buyer < stock.buyers.count && buyer < over.length; buyer++) {
                 boolean canTake = isOffered && load[offer] <= stock.buyers.at(buyer, Stock.CARRY);
                 over[buyer][offer] = canTake ? Math.max(UNLIKED, worthTo(buyer, offer) - price[offer]) : UNLIKED;
             }
@@ -1198,6 +1211,10 @@ public final class ByThePound {
             return offer >= 0 && offer < hours.length;
         }
 
+        boolean isLawful(int offer) {
+            return isRow(offer) && lawful[offer];
+        }
+
         int worthTo(int buyer, int offer) {
             int tied = stock.itemsOf(offer);
             int worth = 0;
@@ -1208,9 +1225,15 @@ public final class ByThePound {
             return worth;
         }
 
+        /** How far WORTH is over PRICE, as the offer was weighed last. */
+        private int overTo(int buyer, int offer) {
+            boolean inside = buyer >= 0 && buyer < over.length && offer >= 0 && offer < over[buyer].length;
+            return inside ? over[buyer][offer] : UNLIKED;
+        }
+
         boolean isLiked(int offer) {
             for (int buyer = 0; buyer < stock.buyers.count; buyer++) {
-                if (over[buyer][offer] > UNLIKED) {
+                if (overTo(buyer, offer) > UNLIKED) {
                     return true;
                 }
             }
@@ -1219,29 +1242,34 @@ public final class ByThePound {
 
         /** The offer that the buyer likes best of those that can still be had in the year; of all without one. */
         int favourite(int buyer, int offers, Year year) {
-            int[] row = over[buyer];
             int best = NONE;
             int most = UNLIKED;
             for (int offer = 0; offer < offers; offer++) {
-                if (row[offer] > most && (year == null || year.hours[maker[offer]] >= hours[offer])) {
+                int here = overTo(buyer, offer);
+                if (here > most && (year == null || canBeHad(offer, year))) {
                     best = offer;
-                    most = row[offer];
+                    most = here;
                 }
             }
             return best;
+        }
+
+        private boolean canBeHad(int offer, Year year) {
+            return Table.cell(year.hours, Table.cell(maker, offer)) >= Table.cell(hours, offer);
         }
 
         /** A year of the first offers, as they were weighed last: how many were sold. */
         int run(Year year, int offers) {
             year.clear();
             for (int by = 0; by < stock.makers.count; by++) {
-                year.hours[by] = stock.makers.at(by, Stock.HOURS);
+                Table.raise(year.hours, by, stock.makers.at(by, Stock.HOURS));
             }
             int sold = 0;
             for (int buyer = 0; buyer < stock.buyers.count; buyer++) {
                 int many = stock.buyers.at(buyer, Stock.MANY);
-                year.lacks[buyer] = serve(buyer, many, offers, year);
-                sold += many - year.lacks[buyer];
+                int left = serve(buyer, many, offers, year);
+                Table.raise(year.lacks, buyer, left);
+                sold += many - left;
             }
             return sold;
         }
@@ -1254,14 +1282,15 @@ public final class ByThePound {
                 if (offer == NONE) {
                     return left;
                 }
-                int by = maker[offer];
-                int needed = Math.max(1, hours[offer]);
-                int taken = Math.min(left, year.hours[by] / needed);
+                int by = Table.cell(maker, offer);
+                int needed = Math.max(1, Table.cell(hours, offer));
+                int taken = Math.min(left, Table.cell(year.hours, by) / needed);
+                int earned = Table.cell(price, offer) - Table.cell(cost, offer);
                 left -= taken;
-                year.hours[by] -= taken * needed;
-                year.sold[offer] += taken;
-                year.earned[by] += taken * (price[offer] - cost[offer]);
-                year.gain[buyer] += taken * over[buyer][offer];
+                Table.raise(year.hours, by, -taken * needed);
+                Table.raise(year.sold, offer, taken);
+                Table.raise(year.earned, by, taken * earned);
+                Table.raise(year.gain, buyer, taken * overTo(buyer, offer));
             }
             return left;
         }
@@ -1288,7 +1317,7 @@ public final class ByThePound {
         private int earnedWith(int offer, int offers, int maker) {
             market.weigh(offer);
             market.run(after, offers);
-            return maker >= 0 && maker < after.earned.length ? after.earned[maker] : 0;
+            return Table.cell(after.earned, maker);
         }
 
         private void layOne(int row, int maker, int house, int thing) {
@@ -1390,7 +1419,7 @@ public final class ByThePound {
                 stock.reweigh(row, 0, weight);
                 market.weigh(row);
                 if (market.isLiked(row)) {
-                    if (market.price[row] >= market.cost[row]) {
+                    if (Table.cell(market.price, row) >= Table.cell(market.cost, row)) {
                         return 0;
                     }
                     reason = 3;
@@ -1412,7 +1441,7 @@ public final class ByThePound {
             }
             int sum = 0;
             for (int buyer = 0; buyer < stock.buyers.count; buyer++) {
-                sum += stock.buyers.at(buyer, Stock.MANY) * greatest[buyer];
+                sum += stock.buyers.at(buyer, Stock.MANY) * Table.cell(greatest, buyer);
             }
             return sum;
         }
@@ -1431,7 +1460,7 @@ public final class ByThePound {
 
         private void raiseGreatest(int thing, int weight, int wage) {
             int cost = scales.hoursOf(thing, weight, 1) * wage + stock.things.at(thing, Stock.STUFF) * weight;
-            for (int buyer = 0; buyer < stock.buyers.count; buyer++) {
+            for (int buyer = 0; buyer < stock.buyers.count && buyer < greatest.length; buyer++) {
                 if (weight <= stock.buyers.at(buyer, Stock.CARRY)) {
                     greatest[buyer] = Math.max(greatest[buyer], scales.worthTo(buyer, thing, weight, 1) - cost);
                 }
@@ -1512,12 +1541,8 @@ public final class ByThePound {
         }
 
         private void addNets(int gift, int value) {
-            int giver = gifts.at(gift, Stock.GIVER);
-            int getter = gifts.at(gift, Stock.GETTER);
-            if (giver >= 0 && giver < PEOPLE && getter >= 0 && getter < PEOPLE) {
-                nets[giver] -= value;
-                nets[getter] += value;
-            }
+            Table.raise(nets, gifts.at(gift, Stock.GIVER), -value);
+            Table.raise(nets, gifts.at(gift, Stock.GETTER), value);
         }
 
         /** The fewest gifts from one to himself: who has something after each step, as bits. */
@@ -1542,7 +1567,7 @@ public final class ByThePound {
             bringAll();
             for (int taken = 0; taken < gifts.count; taken++) {
                 int poorest = poorest();
-                if (nets[poorest] >= 0) {
+                if (Table.cell(nets, poorest) >= 0) {
                     return taken;
                 }
                 takeAway(dearestOf(poorest));
@@ -1553,7 +1578,7 @@ public final class ByThePound {
         private int poorest() {
             int poorest = 0;
             for (int who = 1; who < PEOPLE; who++) {
-                if (nets[who] < nets[poorest]) {
+                if (Table.cell(nets, who) < Table.cell(nets, poorest)) {
                     poorest = who;
                 }
             }

@@ -1,4 +1,6 @@
+import com.sun.source.tree.ArrayAccessTree;
 import com.sun.source.tree.CompilationUnitTree;
+import com.sun.source.tree.LiteralTree;
 import com.sun.source.tree.MethodInvocationTree;
 import com.sun.source.tree.MethodTree;
 import com.sun.source.tree.NewClassTree;
@@ -247,11 +249,48 @@ public final class RulesTests {
         }
     }
 
+    /** Rule 7: a method that uses a place of an array looks at a length (or has it looked at by isRow) itself. */
+    private static void placesAreLookedAt() throws IOException {
+        JavaCompiler compiler = ToolProvider.getSystemJavaCompiler();
+        StandardJavaFileManager files = compiler.getStandardFileManager(null, null, null);
+        JavacTask task = (JavacTask) compiler.getTask(null, files, null, List.of("-proc:none"), null,
+            files.getJavaFileObjects("src/main/java/ByThePound.java"));
+        PlaceScanner places = new PlaceScanner();
+        for (CompilationUnitTree unit : task.parse()) {
+            places.scan(unit, null);
+        }
+        hold("the places of arrays are seen", places.seen > 40);
+        hold("rule 7: no length is looked at in " + places.unseen, places.unseen.isEmpty());
+    }
+
+    private static final class PlaceScanner extends TreePathScanner<Void, MethodTree> {
+        /** A table is as long as its rows and columns, and these are what it looks at. */
+        private static final Pattern LOOKS = Pattern.compile("\\.length\\b|\\bisRow\\(|column < columns");
+        private final Set<String> unseen = new TreeSet<>();
+        private int seen = 0;
+
+        @Override
+        public Void visitMethod(MethodTree method, MethodTree in) {
+            return super.visitMethod(method, method);
+        }
+
+        @Override
+        public Void visitArrayAccess(ArrayAccessTree place, MethodTree in) {
+            seen++;
+            boolean isConstant = place.getIndex() instanceof LiteralTree;
+            if (!isConstant && (in == null || !LOOKS.matcher(in.getBody().toString()).find())) {
+                unseen.add(place + " of " + (in == null ? "a field" : in.getName()));
+            }
+            return super.visitArrayAccess(place, in);
+        }
+    }
+
     public static void main(String[] args) throws IOException {
         face();
         classesInside();
         source();
         callsAreShallow();
+        placesAreLookedAt();
         System.out.println(wrong == 0 ? "the rules that can be looked up hold" : wrong + " rules are broken");
         if (wrong != 0) {
             System.exit(1);
