@@ -413,6 +413,11 @@ public final class PromiseTests {
         question("not not 1<2", true);
         question("weight = 9", true);
         question("size = 10", true);
+        String deep = times("1+2*(", 8) + "1+2*3" + times(")", 8);
+        sum(deep, 2047);
+        question("1=2 or 1=1 and 2046 < " + deep, true);
+        question("1=2 or 1=1 and 2047 < " + deep, false);
+        question("1=2 or 1=1 and " + times("not ", 8) + "2047 = 1+2*1023", true);
     }
 
     private static void of() {
@@ -953,6 +958,82 @@ public final class PromiseTests {
         due("tape", x.about(7), 20);
     }
 
+    /** As many of each as there can be; buyer i wants thing i, and things 7, 8, 9 are the last three offers. */
+    private static ByThePound full() {
+        ByThePound x = new ByThePound();
+        for (int i = 0; i < 10; i++) {
+            due("thing", x.thing(1, 1, 1, i == 9 ? 2 : 0), i);
+            due("buyer", x.buyer(i + 1, i, 9, 9), i);
+        }
+        for (int i = 0; i < 6; i++) {
+            due("maker", x.maker(i == 5 ? 15 : 100, 1023, 0), i);
+        }
+        for (int i = 0; i < 20; i++) {
+            due("offer", x.offer(i == 18 ? 4 : 5, 3), i);
+        }
+        for (int i = 7; i < 10; i++) {
+            due("put", x.put(10 + i, i, 1, 0), 1);
+        }
+        return x;
+    }
+
+    private static void lastAreTold(ByThePound x) {
+        due("sold of 17", x.of(17, 5), 8);
+        due("sold of 18", x.of(18, 5), 9);
+        due("sold of 19: seven hours were left", x.of(19, 5), 7);
+        due("eight of 1, seven of -1", x.told(0, 5), 1);
+        due("nine of 1", x.told(0, 4), 9);
+        due("hours left of 5", x.told(1, 5), 0);
+        due("hours left of 4", x.told(1, 4), 91);
+        due("lacks of 9", x.told(2, 9), 3);
+        due("lacks of 8", x.told(2, 8), 0);
+        due("gain of 9", x.told(3, 9), 56);
+        due("gain of 8", x.told(3, 8), 72);
+        due("judged", x.judge(), 19);
+    }
+
+    private static void lastOfEach() {
+        ByThePound x = full();
+        due("year", x.year(), 24);
+        lastAreTold(x);
+        due("likes", x.likes(9), 19);
+        due("had", x.harm(-1, 1), 64 + 72 + 56 + 1 + 9);
+        due("the last gift", giftsTill30(x), 29);
+        due("image", x.image(), 20);
+        due("drop", x.drop(17), 1);
+        due("nine and ten", x.year(), 19);
+        due("lacks of 9 now", x.told(2, 9), 0);
+        due("sold of 19 now", x.of(19, 5), 10);
+        due("back", x.back(), 20);
+        lastAreTold(x);
+        due("gifts", x.about(6), 30);
+        due("net of 7: 29 ones and a 2", x.net(7), -31);
+    }
+
+    private static int giftsTill30(ByThePound x) {
+        for (int i = 0; i < 29; i++) {
+            due("gift", x.gift(7, 6, 1), i);
+        }
+        return x.gift(7, 6, 2);
+    }
+
+    private static void triedBehindAll() {
+        ByThePound x = full();
+        due("seven of thing 6", x.best(0, 6, 0, 1), 7);
+        due("seven more of maker 5, and no hours are left for thing 9", x.best(5, 6, 0, 1), 15);
+        due("six and seven of 2, less six and seven of 1", x.tied(0, 5, 6, 0), 13);
+        due("thing 8", x.never(8), 0);
+        due("thing 9", x.never(9), 3);
+        for (int i = 0; i < 5; i++) {
+            due("text", read(x, "price 1;"), i);
+        }
+        due("the last text", read(x, "bars thing = 9;"), 5);
+        due("who gain more", x.changed(5, 0), 0);
+        due("who gain less", x.changed(5, 1), 1 << 9);
+        due("who earn more", x.changed(5, 2), 1 << 5);
+        due("who earn less", x.changed(5, 3), 0);
+    }
+
     private static void anything() {
         int[] odd = {Integer.MIN_VALUE, -1000, -2, -1, 0, 1, 2, 3, 9, 10, 31, 32, 40, 300, Integer.MAX_VALUE};
         for (int a : odd) {
@@ -1034,6 +1115,8 @@ public final class PromiseTests {
         run("32 buyers", PromiseTests::buyers);
         run("33, 34 image, back", PromiseTests::image);
         run("35 about", PromiseTests::about);
+        run("the last of each", PromiseTests::lastOfEach);
+        run("tried behind twenty offers", PromiseTests::triedBehindAll);
         run("any arguments", PromiseTests::anything);
         System.out.println(wrong == 0 ? "each promise holds" : wrong + " answers are not as due");
         if (wrong != 0) {
